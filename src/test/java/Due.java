@@ -1,6 +1,8 @@
 /** Compares answers with those that are due, and ends a test's main method. */
 final class Due {
     private final String test;
+    private String sentence = "";
+    private int sentences = 0;
     private int asked = 0;
     private int wrong = 0;
 
@@ -8,11 +10,17 @@ final class Due {
         this.test = test;
     }
 
+    /** What is asked from here on belongs to this sentence of the document. */
+    void sentence(String words) {
+        sentence = "[" + words + "] ";
+        sentences++;
+    }
+
     void is(int want, int got, String what) {
         asked++;
         if (got != want) {
             wrong++;
-            System.out.println(test + ": " + what + " answered " + got + ", due is " + want);
+            System.out.println(test + ": " + sentence + what + " answered " + got + ", due is " + want);
         }
     }
 
@@ -20,7 +28,7 @@ final class Due {
         asked++;
         if (!fact) {
             wrong++;
-            System.out.println(test + ": not so: " + what);
+            System.out.println(test + ": " + sentence + "not so: " + what);
         }
     }
 
@@ -29,7 +37,8 @@ final class Due {
     }
 
     void end() {
-        System.out.println(test + ": " + asked + " asked, " + wrong + " wrong");
+        String of = sentences == 0 ? "" : " of " + sentences + " sentences";
+        System.out.println(test + ": " + asked + " asked" + of + ", " + wrong + " wrong");
         if (wrong != 0) {
             System.exit(1);
         }
